@@ -507,13 +507,13 @@ public final class PageInterpreter {
         private final int length;
 
         private Program(Operator[] operators, long[] literals, int[] partners, int length) {
-            this.length = length;
-            this.operators = new Operator[length];
-            for (int i = 0; i < length; i++) {
+            this.length = Math.max(0, Math.min(length, operators.length));
+            this.operators = new Operator[this.length];
+            for (int i = 0; i < this.length; i++) {
                 this.operators[i] = operators[i];
             }
-            this.literals = Arrays.copyOf(literals, length);
-            this.partners = Arrays.copyOf(partners, length);
+            this.literals = Arrays.copyOf(literals, this.length);
+            this.partners = Arrays.copyOf(partners, this.length);
         }
 
         /** The next that belongs to a repeat. */
@@ -952,12 +952,14 @@ public final class PageInterpreter {
             return path;
         }
 
+        /** The number of the first point of a path. */
         private int startOf(int path) {
             return path >= 0 && path <= PATH_ROOM ? starts[path] : 0;
         }
 
+        /** The number behind the last point of a path that has ended. */
         private int endOf(int path) {
-            return path >= 0 && path < ended ? startOf(path + 1) : startOf(path);
+            return path >= 0 && path < ended ? starts[path + 1] : 0;
         }
 
         private boolean isOddClip(int path) {

@@ -16,6 +16,7 @@ public final class CallsTest {
         setBudget();
         undoOfEach();
         undoRoom();
+        undoOfBoxes();
         undoKeepsBufferAndResults();
         failedCallsSaveNothing();
         Check.end("CallsTest");
@@ -251,6 +252,38 @@ public final class CallsTest {
         Check.due("the seventh undo", Check.ILLEGAL, x.undo());
         Check.due("the oldest that was kept", 3, x.setBudget(3));
         Check.due("an edit that changes nothing is saved too", 0, x.undo());
+        for (int round = 0; round < 3; round++) {
+            for (int i = 0; i < 9; i++) {
+                Check.stream(x, 1, "1 ".repeat(i));
+            }
+            for (int left = 5; left >= 0; left--) {
+                Check.due("undo", left, x.undo());
+                Check.due("tokenCount", left + 2, x.tokenCount(1));
+            }
+            Check.due("the seventh undo", Check.ILLEGAL, x.undo());
+        }
+    }
+
+    private static void undoOfBoxes() {
+        PageInterpreter x = Check.page("$A draw");
+        Check.stream(x, 0, "-9 -9 50 50 rect fill");
+        Check.due("define", 0, x.define(-1, 0, 2, 0));
+        Check.due("setBox", 0, x.setBox(0, 1, 2, 3, 5));
+        Check.due("setBox", 1, x.setBox(0, 0, 0, 9, 9));
+        x.run();
+        Check.due("countColor(1)", 81, x.countColor(1));
+        Check.due("undo", 4, x.undo());
+        x.run();
+        Check.due("countColor(1)", 6, x.countColor(1));
+        Check.due("cell(1, 2)", 1, x.cell(1, 2));
+        Check.due("undo", 3, x.undo());
+        x.run();
+        Check.due("countColor(1)", 144, x.countColor(1));
+        for (int f = 0; f <= 5; f++) {
+            Check.due("setBox", 0, x.setBox(f, 0, 0, 1, 1));
+            x.undo();
+            Check.due("removeBox after the undo of setBox", Check.ILLEGAL, x.removeBox(f));
+        }
     }
 
     private static void undoKeepsBufferAndResults() {

@@ -41,13 +41,24 @@ public final class OracleTest {
             setText(-1, texts.text(160));
         }
         for (int form = 0; form < 6; form++) {
-            if (texts.below(3) > 0) {
+            if (texts.below(9) > 0) {
                 setText(form, texts.text(20 + texts.below(60)));
             }
         }
-        int resources = texts.below(12);
-        for (int i = 0; i < resources; i++) {
-            define(texts.below(4) > 0 ? -1 : texts.below(6), texts.below(4), 1 + texts.below(2), texts.below(6));
+        for (int name = 0; name < 8; name++) {
+            if (texts.below(9) > 0) {
+                define(-1, name, name < 4 ? 2 : 1, texts.below(6));
+            }
+        }
+        int others = texts.below(6);
+        for (int i = 0; i < others; i++) {
+            int kind = 1 + texts.below(2);
+            define(texts.below(6), texts.nameOf(kind), kind, texts.below(6));
+        }
+        for (int form = 0; form < 6; form++) {
+            if (texts.below(4) == 0) {
+                setBox(form, texts.below(5) - 2, texts.below(5) - 2, 3 + texts.below(9), 3 + texts.below(9));
+            }
         }
     }
 
@@ -62,6 +73,10 @@ public final class OracleTest {
 
     private void define(int stream, int name, int kind, int value) {
         due("define", o.define(stream, name, kind, value), x.define(stream, name, kind, value));
+    }
+
+    private void setBox(int form, int x0, int y0, int x1, int y1) {
+        due("setBox", o.setBox(form, x0, y0, x1, y1), x.setBox(form, x0, y0, x1, y1));
     }
 
     /** A number near or in a range. */
@@ -79,7 +94,7 @@ public final class OracleTest {
                 int y0 = texts.below(6) == 0 ? near(-99, 99) : texts.below(9) - 2;
                 int x1 = texts.below(6) == 0 ? near(-99, 99) : x0 + texts.below(9);
                 int y1 = texts.below(6) == 0 ? near(-99, 99) : y0 + texts.below(9);
-                due("setBox", o.setBox(form, x0, y0, x1, y1), x.setBox(form, x0, y0, x1, y1));
+                setBox(form, x0, y0, x1, y1);
             }
             case 3 -> {
                 int form = near(0, 5);

@@ -12,6 +12,7 @@ public final class PaintingTest {
         rules();
         directions();
         edges();
+        sixteenths();
         triangles();
         thinPaths();
         openParts();
@@ -149,8 +150,33 @@ public final class PaintingTest {
         picture(Check.ran("1/2 1/2 2 2 rect fill", 0), "11..", "11..", "....");
         picture(Check.ran("1/2 0 2 2 rect fill", 0), "11..", "11..", "....");
         picture(Check.ran("0 1/2 2 2 rect fill", 0), "11..", "11..", "....");
+        picture(Check.ran("5/2 1/2 -2 2 rect fill", 0), "11..", "11..", "....");
+        picture(Check.ran("5/2 5/2 -2 -2 rect fill", 0), "11..", "11..", "....");
+        picture(Check.ran("1/2 5/2 2 -2 rect fill", 0), "11..", "11..", "....");
         picture(Check.ran("1/3 1/3 1 1 rect fill", 0), "1...", "....");
         picture(Check.ran("2/3 2/3 1 1 rect fill", 0), "....", ".1..", "....");
+    }
+
+    /** Paths in sixteenths around the centre (8, 8) of the first cell. */
+    private static void sixteenths() {
+        String scale = "1/4 0 0 1/4 0 0 concat 1/4 0 0 1/4 0 0 concat ";
+        String[] covering = {"0 0 9 9 rect", "8 8 1 1 rect", "8 0 1 9 rect", "0 8 9 1 rect", "9 9 -1 -1 rect",
+            "0 7 move 8 7 line 9 10 line 0 10 line", "0 10 move 9 10 line 8 7 line 0 7 line",
+            "8 7 move 7 10 line 16 10 line 16 7 line", "7 7 move 16 7 line 16 10 line 10 10 line 8 8 line"};
+        String[] missing = {"0 0 8 9 rect", "0 0 9 8 rect", "9 0 9 9 rect", "0 9 9 9 rect", "8 8 -1 -1 rect",
+            "0 7 move 8 7 line 7 10 line 0 10 line", "0 10 move 7 10 line 8 7 line 0 7 line",
+            "0 7 move 8 7 line 8 10 line 0 10 line", "8 7 move 9 10 line 16 10 line 16 7 line"};
+        for (String end : new String[] {" fill", " xfill"}) {
+            for (String path : covering) {
+                Check.due("cell of " + path, 1, Check.ran(scale + path + end, 0).cell(0, 0));
+            }
+            for (String path : missing) {
+                Check.due("cell of " + path, 0, Check.ran(scale + path + end, 0).cell(0, 0));
+            }
+        }
+        PageInterpreter x = Check.ran("1 2 2 3 rect fill", 0);
+        Check.due("the cells are 16 wide and high", 6, x.countColor(1));
+        Check.due("cell(2, 4)", 1, x.cell(2, 4));
     }
 
     private static void triangles() {
@@ -200,6 +226,13 @@ public final class PaintingTest {
         x = Check.ran("0 0 2 2 rect clip drop 1 0 0 1 1 1 concat 0 0 2 2 rect fill", 0);
         Check.due("cells", 1, x.item(0, 7));
         Check.due("itemAt", 0, x.itemAt(1, 1));
+        // saves and forms keep the clip paths that there are
+        x = Check.ran("0 0 9 9 rect fill 1 1 2 1 rect clip drop save 2 0 5 5 rect clip drop 3 color 0 0 9 9 rect fill restore "
+                + "4 color 0 0 9 9 rect fill", 0);
+        Check.due("cells", 1, x.item(1, 7));
+        Check.due("cells", 2, x.item(2, 7));
+        Check.due("itemAt", 2, x.itemAt(2, 1));
+        Check.due("its colour is seen", 4, x.cell(1, 1));
         // a clip path without cells clips all
         x = Check.ran("0 0 move clip drop 0 0 9 9 rect fill", 0);
         Check.due("cells", 0, x.item(0, 7));

@@ -30,6 +30,11 @@ public final class RunsTest {
         traces();
         resultsStay();
         orderOfKinds();
+        runAgain();
+        manyRuns();
+        deepestSaves();
+        manyBoxes();
+        whatIsLeft();
         Check.end("RunsTest");
     }
 
@@ -142,6 +147,12 @@ public final class RunsTest {
             stopped("$A 1 " + w, 2, 2);
         }
         stopped("$A 1 move drop", 2, 2);
+        stopped("$A 0 0 move 1 line drop", 2, 5);
+        stopped("$A 1 1 1 rect drop", 2, 4);
+        stopped("$A 0 0 1 0 0 concat", 2, 6);
+        stopped("1 0 0 1 0 $A concat", 2, 6);
+        // a name below the operands does no harm
+        Check.ran("$A 1 1 add $A 0 0 move fill $A 1 0 0 1 0 0 concat $A 0 repeat next", 0);
     }
 
     private static void operandLimit() {
@@ -218,6 +229,8 @@ public final class RunsTest {
         PageInterpreter x = Check.ran("0 0 repeat 1 add next", 0);
         Check.operand(x, 0, 0, 1);
         Check.due("operators", 1, x.result(3));
+        gives("0 1 repeat 1 add next", 1, 1);
+        gives("0 2 repeat 1 add next", 2, 1);
         x = Check.ran("0 3 repeat 1 add next 9", 0);
         Check.operand(x, 0, 3, 1);
         Check.operand(x, 1, 9, 1);
@@ -614,6 +627,115 @@ public final class RunsTest {
         Check.due("operands", 0, x.result(6));
         Check.due("colour", 0, x.cell(1, 1));
         Check.due("result(2)", Check.NONE, x.result(2));
+    }
+
+    /** A run that ended anywhere leaves nothing to the next one. */
+    private static void runAgain() {
+        PageInterpreter x = Check.page("4 save 2 0 0 2 0 0 concat 2 repeat $A draw next restore");
+        x.define(-1, 0, 2, 3);
+        Check.stream(x, 3, "save 1 0 0 1 1 1 concat 9 color 7 0 0 1 1 rect xclip add fill restore");
+        for (int i = 0; i < 3; i++) {
+            Check.due("run", 2, x.run());
+            at(x, 2, 3, 17);
+            matrix(x, "2 0 0 2 2 2");
+            Check.due("operands", 1, x.result(6));
+            Check.due("operators", 9, x.result(3));
+            Check.due("forms", 1, x.result(5));
+            Check.due("items", 0, x.result(4));
+        }
+        Check.stream(x, -1, "0 0 1 1 rect fill 0 0 9 9 rect fill 5");
+        for (int i = 0; i < 3; i++) {
+            Check.due("run", 0, x.run());
+            matrix(x, "1 0 0 1 0 0");
+            Check.due("forms", 0, x.result(5));
+            Check.due("items", 2, x.result(4));
+            Check.due("the mark of the other run is gone", 0, x.item(1, 4));
+            Check.due("colour", 1, x.item(1, 0));
+            Check.due("points", 4, x.item(0, 3));
+            Check.due("cells", 81, x.item(1, 7));
+            Check.due("operands", 1, x.result(6));
+        }
+    }
+
+    private static void manyRuns() {
+        PageInterpreter x = Check.page("9 repeat 0 0 2 2 rect 0 0 move 0 9 line 9 0 line clip drop 0 0 9 9 rect xfill next");
+        for (int i = 0; i < 300; i++) {
+            Check.due("run", 6, x.run());
+            at(x, 6, -1, 17);
+            Check.due("items", 6, x.result(4));
+            Check.due("points", 4, x.item(5, 3));
+            Check.due("clips", 6, x.item(5, 4));
+        }
+        // the triangle goes the other way round, so that the square is cut out of it
+        Check.due("cells", 32, x.item(5, 7));
+    }
+
+    private static void deepestSaves() {
+        PageInterpreter x = new PageInterpreter();
+        x.define(-1, 0, 2, 0);
+        for (int s = -1; s < 4; s++) {
+            String inside = s < 3 ? "1 0 0 1 1 0 concat $A draw " : "0 0 1 1 rect fill ";
+            Check.stream(x, s, "save ".repeat(5) + "1 0 0 1 0 1 concat save " + inside + "restore ".repeat(6));
+            if (s >= 0) {
+                x.define(s, 0, 2, s + 1);
+            }
+        }
+        Check.due("run", 0, x.run());
+        Check.due("x", 4 * 16, x.point(0, 0, 0));
+        Check.due("y", 5 * 16, x.point(0, 0, 1));
+        matrix(x, "1 0 0 1 0 0");
+        Check.due("operators", 5 * 13 + 4 * 2 + 2, x.result(3));
+    }
+
+    private static void manyBoxes() {
+        PageInterpreter x = Check.page("9 repeat 9 repeat $A draw $A draw next next 1 1 2 2 rect clip fill 2 color 2 2 5 5 rect fill");
+        x.define(-1, 0, 2, 0);
+        Check.stream(x, 0, "");
+        x.setBox(0, -9, -9, 9, 9);
+        x.setBudget(200);
+        Check.due("run", 0, x.run());
+        Check.due("operators", 178, x.result(3));
+        Check.due("point(1, 2, 1)", 112, x.point(1, 2, 1));
+        Check.due("points", 4, x.item(1, 3));
+        Check.due("clips", 1, x.item(1, 4));
+        Check.due("cells", 4, x.item(0, 7));
+        Check.due("cells", 1, x.item(1, 7));
+        // every operator that is counted draws with a box
+        x.setBox(0, 0, 0, 1, 1);
+        Check.stream(x, -1, "9 repeat 9 repeat 9 repeat $A draw next next next");
+        Check.due("run", 1, x.run());
+        Check.due("operators", 200, x.result(3));
+        Check.due("forms", 1, x.result(5));
+    }
+
+    /** Operators take what they need from the stack, and no more. */
+    private static void whatIsLeft() {
+        String[] texts = {"0 0 move", "0 0 1 1 rect", "0 0 move 0 0 line", "0 0 move close", "0 0 move clip", "0 0 1 1 rect xclip"};
+        for (String text : texts) {
+            for (String end : "fill xfill drop".split(" ")) {
+                PageInterpreter x = Check.ran("7 8 " + text + " " + end, 0);
+                Check.due("operands after " + text + " " + end, 2, x.result(6));
+                Check.operand(x, 1, 8, 1);
+            }
+        }
+        texts = new String[] {"2 color", "save restore", "0 repeat next", "1 repeat next", "1 pop", "1 0 0 1 0 0 concat", "$A draw",
+            "$B color"};
+        for (String text : texts) {
+            PageInterpreter x = Check.page("7 8 " + text);
+            x.define(-1, 0, 2, 0);
+            x.define(-1, 1, 1, 0);
+            Check.stream(x, 0, "5 5 5 5 5");
+            Check.due("run", 0, x.run());
+            Check.due("operands after " + text, 2, x.result(6));
+            Check.operand(x, 0, 7, 1);
+            Check.operand(x, 1, 8, 1);
+        }
+        PageInterpreter x = Check.ran("7 1 2 add", 0);
+        Check.due("operands", 2, x.result(6));
+        x = Check.ran("7 1 2 exch dup", 0);
+        Check.due("operands", 4, x.result(6));
+        Check.operand(x, 0, 7, 1);
+        Check.operand(x, 1, 2, 1);
     }
 
     private static void orderOfKinds() {

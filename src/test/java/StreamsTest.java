@@ -12,6 +12,7 @@ public final class StreamsTest {
         clips();
         ends();
         longTexts();
+        oneAfterTheOther();
         Check.end("StreamsTest");
     }
 
@@ -66,6 +67,13 @@ public final class StreamsTest {
         wrong("add |adds");
         wrong("|Add");
         wrong("1 |push");
+        wrong("|popz");
+        wrong("|apop");
+        wrong("|adda");
+        wrong("|bave");
+        wrong("1 2 move |gill");
+        wrong("1 2 move |filk");
+        wrong("1 2 move |fkll");
         String all = "save restore 1 repeat next 1 1 move 1 1 line close 1 1 1 1 rect clip fill 0 0 move xclip xfill "
                 + "0 0 move drop 1 color $A draw dup pop exch add sub mul div concat";
         right(all, all.split(" ").length);
@@ -105,6 +113,8 @@ public final class StreamsTest {
                 + "restore restore restore", 18);
         wrong("save save save repeat repeat repeat save save save |save");
         wrong("repeat save repeat save repeat save |repeat");
+        wrong("save restore repeat next save save save save save save |save");
+        wrong("save restore repeat next repeat repeat repeat |repeat");
     }
 
     private static void paths() {
@@ -167,6 +177,28 @@ public final class StreamsTest {
         wrong("move close|");
         wrong("|fill save");
         wrong("save |fill");
+    }
+
+    /** What an earlier text left open does not matter to the next one. */
+    private static void oneAfterTheOther() {
+        PageInterpreter x = new PageInterpreter();
+        String[] texts = {"save repeat", "1 1 move clip", "save save save save save", "repeat repeat", "1 1 1 1 rect clip"};
+        for (String text : texts) {
+            x.clearBuffer();
+            Check.write(x, text);
+            Check.due("setStream of " + text, -10 - text.length(), x.setStream(0));
+            x.clearBuffer();
+            Check.write(x, "save save restore restore repeat repeat next next $A move clip fill");
+            Check.due("setStream after " + text, 12, x.setStream(0));
+            Check.write(x, "restore");
+            Check.due("restore after " + text, -10, x.setStream(0));
+            x.clearBuffer();
+            Check.write(x, "line");
+            Check.due("line after " + text, -10, x.setStream(0));
+            x.clearBuffer();
+            Check.write(x, "5 3");
+            Check.due("two numbers", 2, x.setStream(0));
+        }
     }
 
     private static void longTexts() {

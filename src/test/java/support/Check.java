@@ -14,7 +14,9 @@ final class Check {
         compared++;
         if (got != want) {
             wrong++;
-            System.out.println(call + " answered " + got + ", due is " + want);
+            if (wrong <= 30) {
+                System.out.println(call + " answered " + got + ", due is " + want);
+            }
         }
     }
 

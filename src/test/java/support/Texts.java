@@ -49,7 +49,16 @@ final class Texts {
     }
 
     String name() {
-        return "$" + (char) ('A' + below(below(2) == 0 ? 3 : 8));
+        return "$" + (char) ('A' + below(8));
+    }
+
+    /** A number of a name: 0 to 3 are mostly forms, 4 to 7 mostly colours. */
+    int nameOf(int kind) {
+        return below(12) == 0 ? below(8) : below(4) + (kind == 1 ? 4 : 0);
+    }
+
+    private String nameFor(int kind) {
+        return "$" + (char) ('A' + nameOf(kind));
     }
 
     /** A text of a stream, mostly one that is right, of at most a number of characters. */
@@ -125,15 +134,15 @@ final class Texts {
             case 0: case 1: case 2:
                 return path();
             case 3:
-                return List.of(below(3) == 0 ? name() : "" + below(16), "color");
+                return List.of(below(3) == 0 ? nameFor(1) : "" + below(below(9) == 0 ? 18 : 16), "color");
             case 4:
-                return below(4) == 0
+                return below(5) == 0
                         ? List.of(number(), number(), number(), number(), number(), number(), "concat")
                         : List.of("1", "0", "0", "1", small(), small(), "concat");
             case 5:
                 return List.of("1/2", "0", below(3) == 0 ? "1/3" : "0", "-1", small(), small(), "concat");
             case 6: case 7:
-                return List.of(name(), "draw");
+                return List.of(nameFor(2), "draw");
             case 8:
                 return arithmetic();
             case 9:
@@ -150,8 +159,10 @@ final class Texts {
             case 0 -> List.of(number(), "dup", one(List.of("add", "sub", "mul", "div")));
             case 1 -> List.of(number(), number(), "exch");
             case 2 -> List.of(name(), "dup");
-            case 3 -> List.of("pop");
-            case 4 -> List.of(one(List.of("add", "sub", "mul", "div", "exch", "dup", "pop")));
+            case 3 -> List.of(number(), "pop");
+            case 4 -> below(4) == 0
+                    ? List.of(one(List.of("add", "sub", "mul", "div", "exch", "dup", "pop")))
+                    : List.of(number(), number(), number(), one(List.of("mul", "div")), one(List.of("mul", "div")));
             default -> List.of(number(), number(), one(List.of("add", "sub", "mul", "div")));
         };
     }

@@ -363,6 +363,10 @@ public final class RunsTest {
         Check.ran("-999 0 -2 0 rect drop", 6);
         PageInterpreter x = stopped("0 0 999 999 mul 0 rect fill", 6, 6);
         Check.due("operands", 4, x.result(6));
+        // x + w or y + h is out of the limit though the device coordinate would not be
+        Check.ran("1 999 div 0 0 1 0 0 concat 999 dup mul 0 1 1 rect drop", 0);
+        Check.ran("1 999 div 0 0 1 0 0 concat 999 dup mul 0 9 999 mul 1 rect drop", 6);
+        Check.ran("1 0 0 1 999 div 0 0 concat 0 999 dup mul 1 9 999 mul rect drop", 6);
         // a sum of the point is out of the limit though the coordinate would not be
         String shifted = "999 0 2 0 0 0 concat 1 0 0 1 -999 0 concat 1 0 0 1 -2 0 concat 999 2 add ";
         Check.ran(shifted + "1 move drop", 6);
@@ -675,7 +679,8 @@ public final class RunsTest {
         x.define(-1, 0, 2, 0);
         for (int s = -1; s < 4; s++) {
             String inside = s < 3 ? "1 0 0 1 1 0 concat $A draw " : "0 0 1 1 rect fill ";
-            Check.stream(x, s, "save ".repeat(5) + "1 0 0 1 0 1 concat save " + inside + "restore ".repeat(6));
+            Check.stream(x, s, "save ".repeat(5) + "1 0 0 1 0 1 concat save " + inside + "restore ".repeat(6)
+                    + "0 0 move fill");
             if (s >= 0) {
                 x.define(s, 0, 2, s + 1);
             }
@@ -683,8 +688,12 @@ public final class RunsTest {
         Check.due("run", 0, x.run());
         Check.due("x", 4 * 16, x.point(0, 0, 0));
         Check.due("y", 5 * 16, x.point(0, 0, 1));
+        for (int i = 1; i <= 5; i++) {
+            Check.due("x behind the restores", (5 - i) * 16, x.point(i, 0, 0));
+            Check.due("y behind the restores", (5 - i) * 16, x.point(i, 0, 1));
+        }
         matrix(x, "1 0 0 1 0 0");
-        Check.due("operators", 5 * 13 + 4 * 2 + 2, x.result(3));
+        Check.due("operators", 5 * 15 + 4 * 2 + 2, x.result(3));
     }
 
     private static void manyBoxes() {

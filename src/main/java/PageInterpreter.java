@@ -910,6 +910,7 @@ public final class PageInterpreter {
             ended = 0;
             points = 0;
             starts[0] = 0;
+            oddClip[0] = false;
             marked = false;
         }
 

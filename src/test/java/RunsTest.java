@@ -665,11 +665,11 @@ public final class RunsTest {
         PageInterpreter x = Check.page("9 repeat 0 0 2 2 rect 0 0 move 0 9 line 9 0 line clip drop 0 0 9 9 rect xfill next");
         for (int i = 0; i < 300; i++) {
             Check.due("run", 6, x.run());
-            at(x, 6, -1, 17);
-            Check.due("items", 6, x.result(4));
-            Check.due("points", 4, x.item(5, 3));
-            Check.due("clips", 6, x.item(5, 4));
         }
+        at(x, 6, -1, 17);
+        Check.due("items", 6, x.result(4));
+        Check.due("points", 4, x.item(5, 3));
+        Check.due("clips", 6, x.item(5, 4));
         // the triangle goes the other way round, so that the square is cut out of it
         Check.due("cells", 32, x.item(5, 7));
     }
@@ -678,22 +678,18 @@ public final class RunsTest {
         PageInterpreter x = new PageInterpreter();
         x.define(-1, 0, 2, 0);
         for (int s = -1; s < 4; s++) {
-            String inside = s < 3 ? "1 0 0 1 1 0 concat $A draw " : "0 0 1 1 rect fill ";
-            Check.stream(x, s, "save ".repeat(5) + "1 0 0 1 0 1 concat save " + inside + "restore ".repeat(6)
-                    + "0 0 move fill");
+            String inside = s < 3 ? (s + 3) + "color $Adraw " : "0 0move fill ";
+            Check.stream(x, s, "save ".repeat(6) + inside + "restore ".repeat(6) + (s < 0 ? "0 0move fill" : ""));
             if (s >= 0) {
                 x.define(s, 0, 2, s + 1);
             }
         }
         Check.due("run", 0, x.run());
-        Check.due("x", 4 * 16, x.point(0, 0, 0));
-        Check.due("y", 5 * 16, x.point(0, 0, 1));
-        for (int i = 1; i <= 5; i++) {
-            Check.due("x behind the restores", (5 - i) * 16, x.point(i, 0, 0));
-            Check.due("y behind the restores", (5 - i) * 16, x.point(i, 0, 1));
-        }
+        Check.due("the deepest colour", 5, x.item(0, 0));
+        Check.due("the colour behind the restores", 1, x.item(1, 0));
+        Check.due("operators", 16 + 4 * 14, x.result(3));
+        Check.due("forms", 4, x.result(5));
         matrix(x, "1 0 0 1 0 0");
-        Check.due("operators", 5 * 15 + 4 * 2 + 2, x.result(3));
     }
 
     private static void manyBoxes() {

@@ -181,10 +181,9 @@ public final class StreamsTest {
 
     /** What an earlier text left open does not matter to the next one. */
     private static void oneAfterTheOther() {
-        PageInterpreter x = new PageInterpreter();
         String[] texts = {"save repeat", "1 1 move clip", "save save save save save", "repeat repeat", "1 1 1 1 rect clip"};
         for (String text : texts) {
-            x.clearBuffer();
+            PageInterpreter x = new PageInterpreter();
             Check.write(x, text);
             Check.due("setStream of " + text, -10 - text.length(), x.setStream(0));
             x.clearBuffer();

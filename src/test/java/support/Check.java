@@ -1,3 +1,6 @@
+import java.util.Set;
+import java.util.TreeSet;
+
 /** Compares answers, and counts those that are not as due. */
 final class Check {
     static final int INVALID = PageInterpreter.INVALID_ARGUMENT;
@@ -5,6 +8,8 @@ final class Check {
     static final int FULL = PageInterpreter.CAPACITY_EXCEEDED;
     static final int NONE = PageInterpreter.NONE;
 
+    private static final Set<String> FAILED = new TreeSet<>();
+    private static String about = "";
     private static int wrong;
     private static int compared;
 
@@ -14,10 +19,27 @@ final class Check {
         compared++;
         if (got != want) {
             wrong++;
+            FAILED.add(about);
             if (wrong <= 30) {
-                System.out.println(call + " answered " + got + ", due is " + want);
+                System.out.println((about.isEmpty() ? "" : "[" + about + "] ") + call + " answered " + got
+                        + ", due is " + want);
             }
         }
+    }
+
+    /** Says what the next comparisons are about. */
+    static void about(String words) {
+        about = words;
+    }
+
+    /** What the latest comparisons were about. */
+    static String about() {
+        return about;
+    }
+
+    /** What the comparisons were about that were not as due. */
+    static Set<String> failed() {
+        return FAILED;
     }
 
     static int wrong() {

@@ -130,6 +130,9 @@ final class Texts {
     }
 
     private List<String> statement(int depth) {
+        if (below(12) == 0) {
+            return List.of(nearLimit().split(" "));
+        }
         switch (below(depth > 2 ? 10 : 14)) {
             case 0: case 1: case 2:
                 return path();
@@ -152,6 +155,30 @@ final class Texts {
             default:
                 return enclosed(depth, "repeat", "next");
         }
+    }
+
+    /** Tokens that come near to a limit of the document, or beyond it. */
+    private String nearLimit() {
+        String far = (below(2) == 0 ? "" : "-") + "500 2 mul 1 " + one(List.of("16", "31", "32", "33")) + " div "
+                + one(List.of("add", "sub"));
+        String factor = one(List.of("500 2 mul", "999 " + below(4) + " add", "-999 " + below(4) + " sub"));
+        return switch (below(12)) {
+            case 0 -> far + " " + far + " move " + one(List.of("fill", "xfill", "drop"));
+            case 1 -> far + " 0 move fill";
+            case 2 -> "500 2 mul dup mul " + number() + " " + one(List.of("add", "sub", "mul", "div"));
+            case 3 -> "1 500 2 mul dup mul div " + number() + " " + one(List.of("add", "sub", "mul", "div"));
+            case 4 -> factor + " 0 0 " + factor + " " + number() + " " + number() + " concat";
+            case 5 -> "999 0 -999 0 0 0 concat " + factor + " dup move fill";
+            case 6 -> ("0 0 " + small() + " 9 rect ").repeat(5 + below(2)) + "0 0 move " + "1 1 line ".repeat(below(5))
+                    + "fill";
+            case 7 -> (5 + below(3)) + " repeat 0 0 9 " + small() + " rect " + one(List.of("clip", "xclip")) + " "
+                    + one(List.of("fill", "xfill", "drop")) + " next";
+            case 8 -> "9 repeat 3 repeat 0 0 1 1 rect fill next next " + (1 + below(4)) + " repeat 0 0 9 1 rect fill "
+                    + "next";
+            case 9 -> "1 9 repeat dup next " + (1 + below(9)) + " repeat dup next";
+            case 10 -> "save ".repeat(5 + below(3)) + "restore ".repeat(6).trim();
+            default -> (1 + below(10)) + " repeat " + (1 + below(10)) + " repeat 1 pop next next";
+        };
     }
 
     private List<String> arithmetic() {

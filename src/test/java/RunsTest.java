@@ -678,18 +678,19 @@ public final class RunsTest {
         PageInterpreter x = new PageInterpreter();
         x.define(-1, 0, 2, 0);
         for (int s = -1; s < 4; s++) {
-            String inside = s < 3 ? (s + 3) + "color $Adraw " : "0 0move fill ";
-            Check.stream(x, s, "save ".repeat(6) + inside + "restore ".repeat(6) + (s < 0 ? "0 0move fill" : ""));
+            String inside = s < 3 ? (s + 3) + "color $Adraw " : "9color ";
+            String behind = s < 0 || s == 3 ? "0 0move fill" : "";
+            String before = s == 3 ? "8color " : "";
+            Check.stream(x, s, before + "save ".repeat(6) + inside + "restore ".repeat(6) + behind);
             if (s >= 0) {
                 x.define(s, 0, 2, s + 1);
             }
         }
         Check.due("run", 0, x.run());
-        Check.due("the deepest colour", 5, x.item(0, 0));
-        Check.due("the colour behind the restores", 1, x.item(1, 0));
-        Check.due("operators", 16 + 4 * 14, x.result(3));
+        Check.due("the colour behind the deepest restores", 8, x.item(0, 0));
+        Check.due("the colour behind those of the page", 1, x.item(1, 0));
+        Check.due("operators", 16 + 3 * 14 + 16, x.result(3));
         Check.due("forms", 4, x.result(5));
-        matrix(x, "1 0 0 1 0 0");
     }
 
     private static void manyBoxes() {

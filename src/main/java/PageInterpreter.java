@@ -1024,9 +1024,9 @@ public final class PageInterpreter {
         }
     }
 
-    /** The painted items of the latest run. */
+    /** The painted items of the latest run, and the paths that they were made of. */
     private static final class Items {
-        private final Paths paths;
+        private final Paths paths = new Paths();
         private final int[] pathOf = new int[ITEM_ROOM];
         private final boolean[] odd = new boolean[ITEM_ROOM];
         private final int[] colors = new int[ITEM_ROOM];
@@ -1035,10 +1035,6 @@ public final class PageInterpreter {
         private final int[] clipCounts = new int[ITEM_ROOM];
         private final int[] clips = new int[ITEM_ROOM * CLIP_ROOM];
         private int count;
-
-        private Items(Paths paths) {
-            this.paths = paths;
-        }
 
         private boolean isFull() {
             return count >= ITEM_ROOM;
@@ -1283,8 +1279,8 @@ public final class PageInterpreter {
     private static final class Machine {
         private final Frame[] frames = new Frame[DRAW_DEPTH + 1];
         private final Graphics[] states = new Graphics[GRAPHICS_ROOM];
-        private final Paths paths = new Paths();
-        private final Items items = new Items(paths);
+        private final Items items = new Items();
+        private final Paths paths = items.paths;
         private final int[] countedStreams = new int[BUDGET_MOST];
         private final int[] countedTokens = new int[BUDGET_MOST];
         private final int[] countedForms = new int[BUDGET_MOST];

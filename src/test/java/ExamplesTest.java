@@ -1,11 +1,10 @@
-/** The four examples of the document, the example of README.md, and the constants. */
+/** The four examples of the document, and the constants. */
 public final class ExamplesTest {
     public static void main(String[] args) {
         addition();
         division();
         saveAlone();
         fillAlone();
-        readme();
         Check.due("INVALID_ARGUMENT", -10000001, PageInterpreter.INVALID_ARGUMENT);
         Check.due("ILLEGAL_STATE", -10000002, PageInterpreter.ILLEGAL_STATE);
         Check.due("CAPACITY_EXCEEDED", -10000003, PageInterpreter.CAPACITY_EXCEEDED);
@@ -48,15 +47,5 @@ public final class ExamplesTest {
         PageInterpreter x = written(102, 105, 108, 108);
         Check.due("setStream(-1)", -10, x.setStream(-1));
         Check.due("run()", -10000002, x.run());
-    }
-
-    private static void readme() {
-        PageInterpreter x = new PageInterpreter();
-        Check.write(x, "2 color 1 1 6 4 rect fill");
-        Check.due("setStream(-1)", 8, x.setStream(-1));
-        Check.due("run()", 0, x.run());
-        Check.due("cell(1, 1)", 2, x.cell(1, 1));
-        Check.due("countColor(2)", 24, x.countColor(2));
-        Check.due("item(0, 7)", 24, x.item(0, 7));
     }
 }

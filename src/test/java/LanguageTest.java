@@ -3,6 +3,7 @@ import com.sun.source.tree.BinaryTree;
 import com.sun.source.tree.ClassTree;
 import com.sun.source.tree.CompilationUnitTree;
 import com.sun.source.tree.CompoundAssignmentTree;
+import com.sun.source.tree.ExpressionTree;
 import com.sun.source.tree.ImportTree;
 import com.sun.source.tree.LambdaExpressionTree;
 import com.sun.source.tree.LineMap;
@@ -224,6 +225,7 @@ public final class LanguageTest extends TreePathScanner<Void, Void> {
         boolean superCall = called.getKind() == ElementKind.CONSTRUCTOR;
         if (owner.startsWith("PageInterpreter")) {
             called(called);
+            Check.due("rule 12: own method in a constructor, line " + line(tree), 0, isMaking() && !values ? 1 : 0);
         } else if (!superCall) {
             String name = owner + "." + called.getSimpleName();
             Check.due("library: " + name, 1, LIBRARY.contains(name) ? 1 : 0);
@@ -251,7 +253,30 @@ public final class LanguageTest extends TreePathScanner<Void, Void> {
         Check.due("new of the library in line " + line(tree), 1,
                 constructor.getEnclosingElement().toString().startsWith("PageInterpreter") ? 1 : 0);
         called(constructor);
+        for (ExpressionTree argument : tree.getArguments()) {
+            Check.due("rule 12: a constructor hands out " + argument + ", line " + line(tree), 0,
+                    isMaking() && isPartOfObject(argument) ? 1 : 0);
+        }
         return super.visitNewClass(tree, none);
+    }
+
+    /** Whether the present place is one of a constructor or of a field's initialiser. */
+    private boolean isMaking() {
+        for (TreePath path = getCurrentPath(); path != null; path = path.getParentPath()) {
+            if (path.getLeaf() instanceof MethodTree method) {
+                return method.getReturnType() == null;
+            }
+        }
+        return true;
+    }
+
+    /** Whether an expression is an object or a row that a field of the present object holds, or the object itself. */
+    private boolean isPartOfObject(Tree expression) {
+        TreePath path = new TreePath(getCurrentPath(), expression);
+        Element element = trees.getElement(path);
+        boolean inObject = element != null && (element.getKind() == ElementKind.FIELD
+                && !element.getModifiers().contains(Modifier.STATIC) || element.getSimpleName().contentEquals("this"));
+        return inObject && !trees.getTypeMirror(path).getKind().isPrimitive();
     }
 
     @Override
